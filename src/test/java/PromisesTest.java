@@ -16,6 +16,7 @@ public final class PromisesTest {
         communeFaults();
         communeFaultsAtLimits();
         communeTellsAllAnew();
+        communeLeavesNothingBehind();
         tree();
         person();
         motion();
@@ -249,6 +250,24 @@ public final class PromisesTest {
         C.due("4 not felled anew", x.tree(0, 5), 0);
     }
 
+    private static void communeLeavesNothingBehind() {
+        ShadeVotes x = Checks.told("t0 20 1 7;t1 20 1 7;t2 20 1 7;p0 4;p1 4;p2 4;p0 4;p1 4;p2 4;p0 4;");
+        Checks.tell(x, "t8 1 1 2;p8 1;");
+        C.due("4 dark as told", x.dark(1), 0);
+        C.due("4 for as told", x.motion(0, 0), 0);
+        C.due("4 against as told", x.motion(0, 1), 1);
+        C.due("4 share as told", x.share(0), 100);
+        C.due("4 movers as told", x.movers(0, 9), NONE);
+        C.due("4 odds as told", x.odds(0, 5, 0), 0);
+        C.due("4 sway as told", x.sway(0), 0);
+        C.due("4 hedge as told", x.hedge(0), NONE);
+        C.due("4 prune as told", x.prune(0), NONE);
+        C.due("4 tree 1 is gone", x.tree(1, 0), BAD);
+        C.due("4 person 1 is gone", x.person(1, 0), BAD);
+        C.due("4 the next tree is tree 1", x.plants(0, 1), 1);
+        C.due("4 of height 1", x.tree(1, 1), 1);
+    }
+
     /** Promise 5. */
     private static void tree() {
         ShadeVotes x = Checks.told(LAND);
@@ -349,6 +368,9 @@ public final class PromisesTest {
         C.due("9 right off", x.moves(1, 1), STATE);
         C.due("9 nothing was done", x.now(4), 0);
         C.due("9 right", x.moves(0, 1), 1);
+        C.due("9 right to the rim", x.moves(0, 1), 2);
+        C.due("9 right off the rim", x.moves(0, 1), STATE);
+        C.due("9 left from the rim", x.moves(0, 3), 1);
         C.due("9 down", x.moves(0, 2), 4);
         C.due("9 left", x.moves(0, 3), 3);
         C.due("9 up", x.moves(0, 0), 0);
@@ -358,7 +380,7 @@ public final class PromisesTest {
         C.due("9 person below 0", x.moves(-1, 0), BAD);
         C.due("9 way below 0", x.moves(0, -1), BAD);
         C.due("9 way above 3", x.moves(0, 4), BAD);
-        C.due("9 five were done", x.now(4), 5);
+        C.due("9 seven were done", x.now(4), 7);
     }
 
     /** Promise 10. */
@@ -530,6 +552,12 @@ public final class PromisesTest {
         C.due("17 the least of as few", y.movers(0, 1), 3);
         C.due("17 into the sun is not enough", Checks.told("g2 2;t0 1 1 0;p0 1;").movers(0, 9), NONE);
         C.due("17 into the sun is enough", Checks.told("g2 2;t0 1 1 0;t3 1 1 1;p0 2;p3 1;").movers(0, 1), 1);
+        ShadeVotes all = Checks.told("g5 4;t0 1 1 1;t1 1 1 0;t19 1 1 0;p19 1;p19 1;p19 1;p19 1;p19 1;p19 1;p1 1;");
+        C.due("17 all seven", all.movers(0, 1), 127);
+        C.due("7 of seven people", all.motion(0, 1), 7);
+        C.due("21 of seven people", all.hedge(0), NONE);
+        C.due("22 of seven people", all.share(2), 85);
+        C.due("27 of seven people", all.sway(0), 0);
         C.due("17 nobody there", new ShadeVotes().movers(0, 9), NONE);
         ShadeVotes z = Checks.told("g2 2;t3 1 1 1;p0 1;");
         C.due("17 steps are not aslant", z.movers(0, 1), NONE);
@@ -718,6 +746,12 @@ public final class PromisesTest {
         C.due("26 seven, lower", seven.odds(0, 1, 1), 10000000);
         C.due("26 nobody, upper", new ShadeVotes().odds(0, 5, 0), 0);
         C.due("26 nobody, lower", new ShadeVotes().odds(0, 5, 1), 1);
+        seven.movers(1, 9);
+        C.due("26 behind other questions", seven.odds(0, 10, 0), 1);
+        ShadeVotes against = Checks.told("g2 2;t0 1 1 1;t1 1 1 0;p0 1;p1 1;p1 1;");
+        against.movers(0, 0);
+        C.due("26 who does not come is not against, upper", against.odds(0, 5, 0), 1);
+        C.due("26 who does not come is not against, lower", against.odds(0, 5, 1), 8);
         C.due("26 motion below 0", x.odds(-1, 0, 0), BAD);
         C.due("26 motion above 2", x.odds(3, 0, 0), BAD);
         C.due("26 p below 0", x.odds(0, -1, 0), BAD);
@@ -735,6 +769,8 @@ public final class PromisesTest {
         C.due("27 nothing helps", x.sway(2), 0);
         ShadeVotes even = Checks.told(SMALL);
         C.due("27 even votes", even.sway(0), 2);
+        C.due("27 one more", Checks.told("g2 2;t0 1 1 1;t1 1 1 0;p0 2;p1 1;").sway(0), 1);
+        C.due("27 one more, in small weights", Checks.told("t0 1 1 1;p0 1;p8 1;").sway(0), 1);
         C.due("27 nobody", new ShadeVotes().sway(0), 0);
         C.due("27 motion below 0", x.sway(-1), BAD);
         C.due("27 motion above 2", x.sway(3), BAD);
@@ -755,6 +791,8 @@ public final class PromisesTest {
         C.due("28 of several the lowest", x.cool(1), 3);
         x.fells(0);
         C.due("28 none", x.cool(0), NONE);
+        C.due("28 the first cell", Checks.told("t0 1 1 1;p4 1;").cool(0), 0);
+        C.due("28 from the farthest", Checks.told("g5 4;t0 1 1 1;p19 1;").cool(0), 0);
         C.due("28 no such person", x.cool(6), BAD);
         C.due("28 person below 0", x.cool(-1), BAD);
     }
