@@ -62,13 +62,14 @@ enum Call {
         this.told = told;
     }
 
-    private static long named(String refusal) {
+    static long named(String refusal) {
         return switch (refusal) {
             case "BAD" -> -1;
             case "STATE" -> -2;
             case "FULL" -> -3;
             case "NONE" -> -9;
-            default -> -1000000;
+            case "NO" -> -1000000;
+            default -> throw new IllegalArgumentException("no constant of the face: " + refusal);
         };
     }
 
@@ -99,8 +100,13 @@ enum Call {
         return way.on(x, numbers);
     }
 
+    /** Its name in the class. */
+    String called() {
+        return this == MAY_BE ? "mayBe" : name().toLowerCase();
+    }
+
     String written(int... numbers) {
-        StringBuilder s = new StringBuilder(name().toLowerCase()).append('(');
+        StringBuilder s = new StringBuilder(called()).append('(');
         for (int i = 0; i < numbers.length; i++) {
             s.append(i == 0 ? "" : ", ").append(numbers[i]);
         }

@@ -68,6 +68,7 @@ public final class LanguageTest {
         String code = withoutComments(Files.readString(Path.of(PROGRAM)));
         words(code);
         methodLengths(code);
+        whereObjectsAreMade(code);
         callDepths(code);
         C.end("LanguageTest");
     }
@@ -173,6 +174,21 @@ public final class LanguageTest {
                 }
                 C.holds("at most sixty lines: " + lines[i], last - i < 60);
             }
+        }
+    }
+
+    /** All calls of a run live in one room: rows are made with the object, and no call makes one more. */
+    private static void whereObjectsAreMade(String code) {
+        String method = "";
+        for (String line : code.split("\n", -1)) {
+            if (line.matches("( {4}| {8})[a-zA-Z][^;=]*\\) \\{")) {
+                method = line.strip();
+            } else if (line.matches("( {4}| {8})\\}")) {
+                method = "";
+            }
+            boolean isMaking = Pattern.compile("\\bnew\\b|\\bclone\\(|\\.values\\(").matcher(line).find();
+            C.holds("nothing is made but by constructors: " + line.strip(),
+                    !isMaking || method.isEmpty() || method.matches("(public )?[A-Z]\\w*\\(\\) \\{"));
         }
     }
 
